@@ -364,29 +364,27 @@ public final class MaskBench {
         if (what < 0 || what > 5) {
             return refuse(BAD_NUMBER);
         }
-        Plate p = bench.plateInUse();
-        if (p == null || !p.has(x, y)) {
-            return refuse(NO_SUCH);
+        int why = lookAt(x, y);
+        if (why == FINE && what == 4) {
+            why = lookToRestore();
         }
-        if (what == 4 && !p.canRestore()) {
-            return refuse(NOTHING);
+        if (why != FINE) {
+            return refuse(why);
         }
-        camera.aim(p, bench.scene);
-        return answer(camera.figureAt(y * p.wide + x, what));
+        return answer(camera.figureAt(camera.plate.indexOf(x, y), what));
     }
 
     public int all(int what) {
         if (what < 0 || what > 7) {
             return refuse(BAD_NUMBER);
         }
-        Plate p = bench.plateInUse();
-        if (p == null) {
-            return refuse(NO_SUCH);
+        int why = what == 3 ? lookToRestore() : look();
+        if (why == FINE && what == 2 && camera.plate.holes == 0) {
+            why = NOTHING;
         }
-        if ((what == 2 && p.holes == 0) || (what == 3 && !p.canRestore())) {
-            return refuse(NOTHING);
+        if (why != FINE) {
+            return refuse(why);
         }
-        camera.aim(p, bench.scene);
         return answer(camera.figure(what));
     }
 
@@ -394,11 +392,10 @@ public final class MaskBench {
         if (what < 0 || what > 3) {
             return refuse(BAD_NUMBER);
         }
-        Plate p = bench.plateInUse();
-        if (p == null) {
-            return refuse(NO_SUCH);
+        int why = look();
+        if (why != FINE) {
+            return refuse(why);
         }
-        camera.aim(p, bench.scene);
         camera.decode();
         if (what == 3) {
             return answer(camera.timesGreatest(camera.decoded));
@@ -410,14 +407,10 @@ public final class MaskBench {
         if (k < NONE || what < 0 || what > 2 || (k == NONE && what != 0)) {
             return refuse(BAD_NUMBER);
         }
-        Plate p = bench.plateInUse();
-        if (p == null) {
-            return refuse(NO_SUCH);
+        int why = lookToRestore();
+        if (why != FINE) {
+            return refuse(why);
         }
-        if (!p.canRestore()) {
-            return refuse(NOTHING);
-        }
-        camera.aim(p, bench.scene);
         camera.seekSources();
         if (k == NONE) {
             return answer(camera.finds);
@@ -428,19 +421,17 @@ public final class MaskBench {
         if (what == 2) {
             return answer(camera.findCounts[k]);
         }
-        int place = camera.findPlace[k];
-        return answer(what == 0 ? p.xOf(place) : p.yOf(place));
+        return answer(camera.plate.xOrY(camera.findPlace[k], what));
     }
 
     public int frames(int n, int step, int x, int y) {
         if (n < 1 || n > MOST_FRAMES || step < 1 || step > MOST_PLACE) {
             return refuse(BAD_NUMBER);
         }
-        Plate p = bench.plateInUse();
-        if (p == null || !p.has(x, y)) {
-            return refuse(NO_SUCH);
+        int why = lookAt(x, y);
+        if (why != FINE) {
+            return refuse(why);
         }
-        camera.aim(p, bench.scene);
         int sum = 0;
         for (int f = 0; f < n; f++) {
             sum += camera.frameAt(f * step, x, y);
@@ -452,14 +443,10 @@ public final class MaskBench {
         if (what < 0 || what > 1) {
             return refuse(BAD_NUMBER);
         }
-        Plate p = bench.plateInUse();
-        if (p == null) {
-            return refuse(NO_SUCH);
+        int why = lookToRestore();
+        if (why != FINE) {
+            return refuse(why);
         }
-        if (!p.canRestore()) {
-            return refuse(NOTHING);
-        }
-        camera.aim(p, bench.scene);
         camera.fillLost();
         return answer(what == 0 ? camera.errorFilled() : camera.farthestFilled());
     }
@@ -468,66 +455,56 @@ public final class MaskBench {
         if (m < 2 || k < 0) {
             return refuse(BAD_NUMBER);
         }
-        Plate p = bench.plateInUse();
-        if (p == null) {
-            return refuse(NO_SUCH);
+        int why = look();
+        if (why != FINE) {
+            return refuse(why);
         }
-        if (p.wide % m != 0 || k >= p.cells / m) {
+        if (camera.plate.wide % m != 0 || k >= camera.plate.cells / m) {
             return refuse(NOTHING);
         }
-        camera.aim(p, bench.scene);
         // WIDE has m without rest, so no group goes over the end of its row.
         return answer(sumOf(camera.shadow, k * m, m));
     }
 
     public int anti(int x, int y) {
-        Plate p = bench.plateInUse();
-        if (p == null || !p.has(x, y)) {
-            return refuse(NO_SUCH);
-        }
-        camera.aim(p, bench.scene);
-        return answer(camera.antiAt(x, y));
+        int why = lookAt(x, y);
+        return why == FINE ? answer(camera.antiAt(x, y)) : refuse(why);
     }
 
     public int keep() {
-        Plate p = bench.plateInUse();
-        if (p == null) {
-            return refuse(NO_SUCH);
+        int why = look();
+        if (why != FINE) {
+            return refuse(why);
         }
-        camera.aim(p, bench.scene);
         picture.take(camera);
-        return answer(p.cells);
+        return answer(camera.plate.cells);
     }
 
     public long match(int what) {
         if (what < 0 || what > 2) {
             return refuse(BAD_NUMBER);
         }
-        Plate p = bench.plateInUse();
-        if (p == null) {
-            return refuse(NO_SUCH);
+        int why = look();
+        if (why != FINE) {
+            return refuse(why);
         }
-        if (!picture.fits(p)) {
+        if (!picture.fits(camera.plate)) {
             return refuse(NOTHING);
         }
-        camera.aim(p, bench.scene);
         picture.lay(camera);
         state = FINE;
-        if (what == 2) {
-            return picture.laidSum;
-        }
-        return what == 0 ? p.xOf(picture.laidPlace) : p.yOf(picture.laidPlace);
+        return what == 2 ? picture.laidSum : camera.plate.xOrY(picture.laidPlace, what);
     }
 
     public int minus(int x, int y) {
-        Plate p = bench.plateInUse();
-        if (p == null || !p.has(x, y)) {
-            return refuse(NO_SUCH);
+        int why = lookAt(x, y);
+        if (why != FINE) {
+            return refuse(why);
         }
+        Plate p = camera.plate;
         if (!picture.fits(p)) {
             return refuse(NOTHING);
         }
-        camera.aim(p, bench.scene);
         return answer(p.weighed(camera.shadow, x, y) - p.weighed(picture.row, x, y));
     }
 
@@ -535,12 +512,11 @@ public final class MaskBench {
         if (n < 1 || n > MOST_SHOTS || seed < 1 || seed > MOST_SEED || what < 0 || what > 3) {
             return refuse(BAD_NUMBER);
         }
-        Plate p = bench.plateInUse();
-        if (p == null) {
-            return refuse(NO_SUCH);
+        int why = look();
+        if (why != FINE) {
+            return refuse(why);
         }
-        camera.aim(p, bench.scene);
-        int numbers = sumOf(camera.whole, 0, p.cells);
+        int numbers = sumOf(camera.whole, 0, camera.plate.cells);
         if (numbers <= 0) {
             return refuse(NOTHING);
         }
@@ -579,14 +555,10 @@ public final class MaskBench {
         if (what < 0 || what > 2) {
             return refuse(BAD_NUMBER);
         }
-        Plate p = bench.plateInUse();
-        if (p == null) {
-            return refuse(NO_SUCH);
+        int why = lookToRestore();
+        if (why != FINE) {
+            return refuse(why);
         }
-        if (!p.canRestore()) {
-            return refuse(NOTHING);
-        }
-        camera.aim(p, bench.scene);
         camera.seekWorst();
         if (camera.worstPlace == NONE) {
             return refuse(NOTHING);
@@ -594,7 +566,7 @@ public final class MaskBench {
         if (what == 2) {
             return answer(camera.worstError);
         }
-        return answer(what == 0 ? p.xOf(camera.worstPlace) : p.yOf(camera.worstPlace));
+        return answer(camera.plate.xOrY(camera.worstPlace, what));
     }
 
     // ---- told
@@ -641,6 +613,26 @@ public final class MaskBench {
     private void beginAct() {
         history.save(bench.scene);
         camera.forget();
+    }
+
+    /** Aims the camera: FINE, or the STATUS that tells why it can't be. */
+    private int look() {
+        Plate p = bench.plateInUse();
+        if (p == null) {
+            return NO_SUCH;
+        }
+        camera.aim(p, bench.scene);
+        return FINE;
+    }
+
+    private int lookAt(int x, int y) {
+        int why = look();
+        return why == FINE && !camera.plate.has(x, y) ? NO_SUCH : why;
+    }
+
+    private int lookToRestore() {
+        int why = look();
+        return why == FINE && !camera.plate.canRestore() ? NOTHING : why;
     }
 
     private int takeOut(Marks marks, int k) {
@@ -965,6 +957,10 @@ public final class MaskBench {
 
         private int yOf(int place) {
             return place / wide;
+        }
+
+        private int xOrY(int place, int what) {
+            return what == 0 ? xOf(place) : yOf(place);
         }
 
         private void makeClosedRow(int width) {
@@ -1649,6 +1645,7 @@ public final class MaskBench {
         private boolean aimed = false;
         private boolean isDecoded = false;
         private boolean isSought = false;
+        private boolean isWorstKnown = false;
 
         /** Till it is aimed for the first time it looks through a PLATE that no text told. */
         private Camera(Plate p, Scene s) {
@@ -1670,6 +1667,7 @@ public final class MaskBench {
             aimed = true;
             isDecoded = false;
             isSought = false;
+            isWorstKnown = false;
             markLost();
             markTruth();
             throwAll(whole, 0);
@@ -1738,7 +1736,7 @@ public final class MaskBench {
                     return made[i];
                 case 4:
                     decode();
-                    return restoredBy(decoded[i], lightSeen());
+                    return restoredBy(decoded[i], floorBy(lightSeen()));
                 default:
                     return truth[i];
             }
@@ -1774,21 +1772,22 @@ public final class MaskBench {
             return plate.holes > 0 ? Math.floorDiv(light, plate.holes) : 0;
         }
 
+        /** What is decoded at each place, though no source is there. */
+        private int floorBy(int light) {
+            return plate.leastSide * lightByHoles(light) + scene.back * plate.weights;
+        }
+
         /** Only a PLATE that can restore is asked for this. */
-        private int restoredBy(int value, int light) {
-            int other = plate.leastSide;
-            int divisor = plate.side[0] - other;
-            if (divisor == 0) {
-                return 0;
-            }
-            int rest = value - other * lightByHoles(light) - scene.back * plate.weights;
-            return Math.floorDiv(rest, divisor);
+        private int restoredBy(int value, int floor) {
+            int divisor = plate.side[0] - plate.leastSide;
+            return divisor == 0 ? 0 : Math.floorDiv(value - floor, divisor);
         }
 
         private int errorOf(int[] row, int light) {
+            int floor = floorBy(light);
             int error = 0;
             for (int i = 0; i < plate.cells; i++) {
-                error += Math.abs(restoredBy(row[i], light) - truth[i]);
+                error += Math.abs(restoredBy(row[i], floor) - truth[i]);
             }
             return error;
         }
@@ -1840,10 +1839,7 @@ public final class MaskBench {
 
         private int figureOfGreatest(int[] row, int what) {
             int place = placeOfGreatest(row);
-            if (what == 0) {
-                return plate.xOf(place);
-            }
-            return what == 1 ? plate.yOf(place) : row[place];
+            return what == 2 ? row[place] : plate.xOrY(place, what);
         }
 
         /** FOUND by 8; made holds what all places decode to behind each one. */
@@ -1858,7 +1854,7 @@ public final class MaskBench {
             int light = lightSeen();
             for (int n = 0; n < MOST_FOUND; n++) {
                 int place = placeOfGreatest(made);
-                int counts = restoredBy(made[place], light);
+                int counts = restoredBy(made[place], floorBy(light));
                 if (counts <= 0) {
                     return;
                 }
@@ -1979,6 +1975,10 @@ public final class MaskBench {
 
         /** Of each CELL that is not LOST: the ERROR without what it gives to all places. */
         private void seekWorst() {
+            if (isWorstKnown) {
+                return;
+            }
+            isWorstKnown = true;
             decode();
             worstPlace = NONE;
             worstError = 0;
