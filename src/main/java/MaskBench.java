@@ -853,9 +853,11 @@ public final class MaskBench {
         }
 
         private void copyFrom(Marks other) {
-            count = 0;
-            for (int k = 0; k < other.count; k++) {
-                append(other.x[k], other.y[k], other.counts[k]);
+            count = Math.min(other.count, x.length);
+            for (int k = 0; k < count; k++) {
+                x[k] = other.x[k];
+                y[k] = other.y[k];
+                counts[k] = other.counts[k];
             }
         }
     }
@@ -1056,7 +1058,7 @@ public final class MaskBench {
             }
         }
 
-        /** To target at x, y comes times the pattern at cx - x, cy - y: what a CELL decodes to. */
+        /** To target at x, y comes times the pattern at place less x, y: what a CELL decodes to. */
         private void addMirrored(int[] target, int[] pattern, int place, int times) {
             int py = yOf(place);
             int i = 0;
@@ -1669,7 +1671,8 @@ public final class MaskBench {
             isSought = false;
             isWorstKnown = false;
             markLost();
-            markTruth();
+            Arrays.fill(truth, 0, plate.cells, 0);
+            addCounts(truth, scene.sources);
             throwAll(whole, 0);
             for (int i = 0; i < plate.cells; i++) {
                 shadow[i] = lost[i] == 1 ? 0 : whole[i];
@@ -1683,11 +1686,6 @@ public final class MaskBench {
                 lost[plate.indexOf(marks.x[k], marks.y[k])] = 1;
             }
             lostCells = sumOf(lost, 0, plate.cells);
-        }
-
-        private void markTruth() {
-            Arrays.fill(truth, 0, plate.cells, 0);
-            addCounts(truth, scene.sources);
         }
 
         private void addCounts(int[] row, Marks marks) {

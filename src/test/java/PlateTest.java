@@ -184,6 +184,10 @@ public final class PlateTest {
         b.gives(1, "alike", 1, 0);
         b.gives(0, "alike", 0, 2);
         b.gives(0, "alike", 3, 5);
+        // as WIDE, as many HOLES, but not as HIGH
+        b = Bench.of("plate a bits #11;plate b bits #10;plate c both a b;");
+        b.gives(0, "alike", 0, 2);
+        b.gives(0, "alike", 2, 0);
     }
 
     private static void root() {
