@@ -169,9 +169,9 @@ public final class FaceTest {
         Random random = new Random(7);
         Method[] all = MaskBench.class.getDeclaredMethods();
         java.util.Arrays.sort(all, (a, b) -> a.getName().compareTo(b.getName()));
-        for (int run = 0; run < 600; run++) {
+        for (int run = 0; run < 1200; run++) {
             Bench b = new Bench();
-            for (int calls = 0; calls < 450; calls++) {
+            for (int calls = 0; calls < 180; calls++) {
                 if (random.nextInt(60) == 0) {
                     b.load(TEXTS[random.nextInt(TEXTS.length)]);
                 }

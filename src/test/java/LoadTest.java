@@ -21,7 +21,7 @@ public final class LoadTest {
 
     private static void newObject() {
         Bench b = new Bench();
-        Bench.same(b.bench.status(), 0, "STATUS of a new object");
+        Bench.same(b.status(), 0, "STATUS of a new object");
         for (int what = 0; what <= 4; what++) {
             b.gives(0, "many", what);
         }
@@ -43,12 +43,12 @@ public final class LoadTest {
     private static void status() {
         Bench b = Bench.of(ROW7);
         b.refuses(1, "many", 9);
-        b.bench.feed(1, 2, 3, 4, 5);
-        b.bench.fault(0);
-        b.bench.status();
-        Bench.same(b.bench.status(), 1, "STATUS behind calls that have none");
+        b.call("feed", 1, 2, 3, 4, 5);
+        b.call("fault", 0);
+        b.call("status");
+        Bench.same(b.status(), 1, "STATUS behind calls that have none");
         b.gives(1, "many", 0);
-        Bench.same(b.bench.status(), 0, "STATUS of the latest call");
+        Bench.same(b.status(), 0, "STATUS of the latest call");
         // the first that holds
         b.refuses(1, "plate", 9, 9);
         b.refuses(1, "found", -2, 0);
@@ -63,18 +63,17 @@ public final class LoadTest {
     private static void feed() {
         Bench b = new Bench();
         for (int i = 1; i <= 40; i++) {
-            Bench.same(b.bench.feed(0x20202020, 0x0a200a20, 0x20202020, 0x20202020, 0x0a0a0a0a),
-                20 * i, "feed()");
+            b.tells(20 * i, "feed", 0x20202020, 0x0a200a20, 0x20202020, 0x20202020, 0x0a0a0a0a);
         }
-        Bench.same(b.bench.feed(0, 0, 0, 0, 0), -1, "feed() of more than 800");
+        b.tells(-1, "feed", 0, 0, 0, 0, 0);
         b.gives(0, "load", 800);
         // the highest byte of each int first
-        b.bench.feed(0x6261636b, 0x20393bff, 0, 0, 0);
+        b.call("feed", 0x6261636b, 0x20393bff, 0, 0, 0);
         b.gives(0, "load", 7);
         b.gives(9, "many", 4);
-        b.bench.feed(-1, -1, -1, -1, -1);
+        b.call("feed", -1, -1, -1, -1, -1);
         b.refuses(9, "load", 1);
-        Bench.same(b.bench.fault(0), 1, "the FAULT of a byte 255");
+        b.tells(1, "fault", 0);
     }
 
     private static void load() {
@@ -82,7 +81,7 @@ public final class LoadTest {
         b.refuses(1, "load", -1);
         b.refuses(1, "load", 1);
         b.gives(0, "load", 0);
-        b.bench.feed(0x6261636b, 0x20393bff, 0, 0, 0);
+        b.call("feed", 0x6261636b, 0x20393bff, 0, 0, 0);
         b.refuses(1, "load", 21);
         b.gives(0, "load", 7);
         b.gives(9, "many", 4);
@@ -95,8 +94,9 @@ public final class LoadTest {
         // with 9 nothing but the tape and what fault() tells is another
         String before = b.printed();
         b.gives(7, "keep");
+        b.gives(before.length(), "print");
         Bench.same(b.load("plate c row 5;source 0 0 0;"), -1, "load() of a FAULT");
-        Bench.same(b.bench.status(), 9, "STATUS of a FAULT");
+        Bench.same(b.status(), 9, "STATUS of a FAULT");
         b.refuses(1, "load", 1);
         b.gives('p', "out", 0);
         b.gives(0, "match", 0);
@@ -263,22 +263,22 @@ public final class LoadTest {
 
     private static void fault() {
         Bench b = new Bench();
-        Bench.same(b.bench.fault(0), -1, "fault(0) ahead of any");
-        Bench.same(b.bench.fault(1), -1, "fault(1) ahead of any");
+        b.tells(-1, "fault", 0);
+        b.tells(-1, "fault", 1);
         b.refuses(1, "load", 5);
-        Bench.same(b.bench.fault(0), -1, "fault(0) behind STATUS 1");
+        b.tells(-1, "fault", 0);
         b.load(ROW7);
-        Bench.same(b.bench.fault(0), 0, "fault(0) without one");
-        Bench.same(b.bench.fault(1), -1, "fault(1) without one");
+        b.tells(0, "fault", 0);
+        b.tells(-1, "fault", 1);
         b.load("back 100;");
         b.refuses(1, "load", 5);
-        Bench.same(b.bench.fault(0), 3, "fault(0)");
-        Bench.same(b.bench.fault(1), 5, "fault(1)");
-        Bench.same(b.bench.fault(2), -1, "fault(2)");
-        Bench.same(b.bench.fault(-1), -1, "fault(-1)");
-        Bench.same(b.bench.status(), 1, "fault() has no STATUS");
+        b.tells(3, "fault", 0);
+        b.tells(5, "fault", 1);
+        b.tells(-1, "fault", 2);
+        b.tells(-1, "fault", -1);
+        Bench.same(b.status(), 1, "fault() has no STATUS");
         b.load(ROW7);
-        Bench.same(b.bench.fault(0), 0, "fault(0) behind a good one");
+        b.tells(0, "fault", 0);
     }
 
     private static void many() {

@@ -18,6 +18,9 @@ public final class ModelTest {
         "bits #1000", "bits #10", "bits #1110", "bits #1", "bits #0", "bits #111", "bits #01",
         "set 40 0", "set 47 0", "set 4", "bits #0111111111111"};
 
+    /** Each has a status() behind it, and an object is used for at most 512 calls. */
+    private static final int MOST_CALLS = 250;
+
     private final Random random;
     private final Bench bench = new Bench();
     private final Model model = new Model();
@@ -31,7 +34,7 @@ public final class ModelTest {
     }
 
     public static void main(String[] args) {
-        int runs = args.length > 0 ? Integer.parseInt(args[0]) : 400;
+        int runs = args.length > 0 ? Integer.parseInt(args[0]) : 800;
         long widest = 0;
         for (int run = 1; run <= runs && Bench.wrong == 0; run++) {
             ModelTest test = new ModelTest(run);
@@ -44,11 +47,11 @@ public final class ModelTest {
 
     private void go() {
         boolean large = run % 20 == 0;
-        int rounds = large ? 1 : 4;
-        for (int i = 0; i < rounds && calls < 400; i++) {
+        int rounds = large ? 1 : 3;
+        for (int i = 0; i < rounds && calls < MOST_CALLS / 2; i++) {
             load(random.nextInt(6) == 0 ? spoil(text(large)) : text(large));
             int n = large ? 20 : 60;
-            for (int c = 0; c < n && calls < 480; c++) {
+            for (int c = 0; c < n && calls < MOST_CALLS - 20; c++) {
                 step();
             }
             both("print");
@@ -83,9 +86,9 @@ public final class ModelTest {
         long got = bench.call(name, args);
         String call = name + java.util.Arrays.toString(args);
         history.append(call).append(" => ").append(want).append('\n');
-        if (want != got || model.status != bench.bench.status()) {
+        if (want != got || model.status != bench.status()) {
             Bench.fail("run " + run + ": " + call + " answered " + got + " ("
-                + bench.bench.status() + "), due is " + want + " (" + model.status + ")");
+                + bench.status() + "), due is " + want + " (" + model.status + ")");
         }
     }
 

@@ -47,10 +47,10 @@ public final class PlateTest {
 
     private static String holes(Bench b, int k) {
         StringBuilder s = new StringBuilder();
-        for (int y = 0; y < b.bench.plate(k, 1); y++) {
+        for (int y = 0; y < b.call("plate", k, 1); y++) {
             s.append(y == 0 ? "" : "/");
-            for (int x = 0; x < b.bench.plate(k, 0); x++) {
-                s.append(b.bench.cell(k, x, y, 0));
+            for (int x = 0; x < b.call("plate", k, 0); x++) {
+                s.append(b.call("cell", k, x, y, 0));
             }
         }
         return s.toString();
@@ -58,10 +58,10 @@ public final class PlateTest {
 
     private static String weights(Bench b, int k) {
         StringBuilder s = new StringBuilder();
-        for (int y = 0; y < b.bench.plate(k, 1); y++) {
+        for (int y = 0; y < b.call("plate", k, 1); y++) {
             s.append(y == 0 ? "" : "/");
-            for (int x = 0; x < b.bench.plate(k, 0); x++) {
-                s.append(b.bench.cell(k, x, y, 1) == 1 ? '+' : '-');
+            for (int x = 0; x < b.call("plate", k, 0); x++) {
+                s.append(b.call("cell", k, x, y, 1) == 1 ? '+' : '-');
             }
         }
         return s.toString();

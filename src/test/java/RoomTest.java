@@ -16,7 +16,7 @@ public final class RoomTest {
 
     public static void main(String[] args) throws IllegalAccessException {
         Bench b = new Bench();
-        count(b.bench);
+        count(b.object);
         int atFirst = objects;
         long elementsAtFirst = elements;
         System.out.println(atFirst + " objects, " + elementsAtFirst + " fields and elements");
@@ -24,7 +24,7 @@ public final class RoomTest {
             Bench.fail("one object takes too much room");
         }
         allCalls(b);
-        count(b.bench);
+        count(b.object);
         Bench.same(objects, atFirst, "objects behind all calls");
         Bench.same(elements, elementsAtFirst, "fields and elements behind all calls");
         garbage();
@@ -34,7 +34,7 @@ public final class RoomTest {
     private static void allCalls(Bench b) {
         b.load("plate a square 17;plate b row 17;plate c both b b;plate d neg c;source 3 4 99;"
             + "source 5 6 77;lost 3 3;lost 4 4;stray 1 1 9;back 3;");
-        MaskBench m = b.bench;
+        MaskBench m = b.object;
         for (int k = 0; k < 4; k++) {
             m.plate(k, 5);
             m.cell(k, 1, 0, 2);
@@ -126,18 +126,18 @@ public final class RoomTest {
         int n = 57;
         long before = counter.getThreadAllocatedBytes(id);
         for (int i = 0; i < 20; i++) {
-            b.bench.worst(0);
-            b.bench.filled(0);
-            b.bench.best(0);
-            b.bench.shots(500, 1, 3);
-            b.bench.print();
-            b.bench.lose(i, 50);
-            b.bench.undo();
+            b.object.worst(0);
+            b.object.filled(0);
+            b.object.best(0);
+            b.object.shots(500, 1, 3);
+            b.object.print();
+            b.object.lose(i, 50);
+            b.object.undo();
         }
         for (int[] five : feeds) {
-            b.bench.feed(five[0], five[1], five[2], five[3], five[4]);
+            b.object.feed(five[0], five[1], five[2], five[3], five[4]);
         }
-        b.bench.load(n);
+        b.object.load(n);
         long made = counter.getThreadAllocatedBytes(id) - before;
         if (made > 20000) {
             Bench.fail("calls made " + made + " bytes of objects");
