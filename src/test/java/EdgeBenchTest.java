@@ -18,6 +18,8 @@ public final class EdgeBenchTest {
         loadRefusedKeepsTape();
         loadPlates();
         loadForgets();
+        loadAnew();
+        loadAnewPlates();
         faultTold();
         faultStays();
         manyNumbers();
@@ -125,6 +127,9 @@ public final class EdgeBenchTest {
         b.feed("?");
         b.refuses(9, "load", 1);
         b.tells(9, "status");
+        Bench.says("9 a FAULT. 0 else.");
+        b.gives(2, "many", 0);
+        b.tells(0, "status");
         // a long one, too
         b.refuses(5, "match", 0);
         b.tells(5, "status");
@@ -269,6 +274,59 @@ public final class EdgeBenchTest {
         b.gives(0, "many", 6);
         b.refuses(5, "undo");
         b.gives(9, "many", 4);
+    }
+
+    /** What a text told leaves nothing for the next ones, nor does one with a FAULT. */
+    private static void loadAnew() {
+        Bench.says("The first n bytes of the tape (which is empty then, also with 9) are a BENCH");
+        Bench b = Bench.of(RICH);
+        for (int i = 0; i < 4; i++) {
+            b.load("plate x row 5;");
+            Bench.same(b.printed(), "plate x row 5;back 0;use x;", "print() of load() " + i);
+            b.load("plate y row 3;plate z row 3;lost 1 1;back 7;use z;source 0 0 0;");
+            Bench.same(b.printed(), "plate x row 5;back 0;use x;", "print() behind a FAULT");
+            b.load(i % 2 == 0 ? RICH : "back 4;");
+            Bench.same(b.printed(), i % 2 == 0 ? RICH : "back 4;", "print() of another");
+        }
+        b = Bench.of("plate a row 3;plate b row 3;use b;");
+        b.load("back 1;");
+        b.load("plate c row 3;plate d row 3;");
+        b.gives(0, "many", 5);
+        b.load("plate e row 3;");
+        b.gives(0, "many", 5);
+    }
+
+    private static void loadAnewPlates() {
+        Bench.says("The first n bytes of the tape (which is empty then, also with 9) are a BENCH");
+        // HOLES, WEIGHTS and SIDES are not those of a PLATE with this number two texts ahead
+        Bench b = new Bench();
+        for (int i = 0; i < 3; i++) {
+            b.load("plate a set 5 0 1 2 3 4;plate b turn a 0 0;");
+            b.gives(5, "plate", 0, 2);
+            b.gives(5, "plate", 1, 4);
+        }
+        for (int i = 0; i < 3; i++) {
+            b.load("plate a set 5;plate b turn a 0 0;");
+            b.gives(0, "plate", 0, 2);
+            b.gives(0, "plate", 1, 2);
+            b.gives(-5, "plate", 1, 3);
+            b.gives(0, "plate", 0, 4);
+            b.gives(0, "plate", 1, 7);
+        }
+        for (int i = 0; i < 3; i++) {
+            b.load("plate a bits #10000;plate b turn a 1 0;");
+            b.gives(1, "plate", 0, 2);
+            b.gives(1, "cell", 1, 1, 0, 0);
+            b.gives(0, "cell", 1, 0, 0, 0);
+            b.gives(-1, "cell", 1, 0, 0, 1);
+            b.gives(-1, "plate", 1, 6);
+        }
+        for (int i = 0; i < 3; i++) {
+            b.load("plate a set 5 1;plate b turn a 1 0;");
+            b.gives(0, "cell", 0, 0, 0, 0);
+            b.gives(1, "cell", 1, 2, 0, 0);
+            b.gives(0, "cell", 1, 1, 0, 0);
+        }
     }
 
     private static void faultTold() {

@@ -16,6 +16,9 @@ public final class EdgeFoundTest {
         foundAtMostEight();
         foundNone();
         foundNumbers();
+        foundAnew();
+        foundLargest();
+        foundWithLost();
         foundRefused();
         framesTurned();
         framesRound();
@@ -45,6 +48,7 @@ public final class EdgeFoundTest {
         bestFirst();
         bestRefused();
         worstFirst();
+        worstWithBack();
         worstNotLost();
         worstRefused();
         Bench.end();
@@ -145,6 +149,90 @@ public final class EdgeFoundTest {
                 b.gives(want[k][what], "found", k, what);
             }
         }
+    }
+
+    private static void foundAnew() {
+        Bench.says("FOUND, by n (1 to 8): again and again");
+        Bench b = Bench.of("plate a row 7;source 2 0 10;");
+        b.gives(1, "found", -1, 0);
+        b.gives(0, "drop", 0, 0);
+        b.gives(0, "found", -1, 0);
+        b.refuses(5, "found", 0, 0);
+        b.gives(0, "undo");
+        b.gives(1, "found", -1, 0);
+        b.gives(2, "found", 0, 0);
+        b.gives(1, "add", 0, 3, 0, 20);
+        b.gives(2, "found", -1, 0);
+        b.gives(3, "found", 0, 0);
+        b.gives(2, "found", 1, 0);
+    }
+
+    /** As many CELLS as there may be, and all that is made of them. */
+    private static void foundLargest() {
+        Bench.says("again and again: of all places that with the greatest DECODED");
+        String text = "plate s square 17;source 16 16 999;source 0 16 500;back 99;";
+        Bench b = Bench.of(text);
+        finds(b, new int[] {16, 16, 999}, new int[] {0, 16, 500});
+        b.gives(0, "filled", 0);
+        b.gives(0, "filled", 1);
+        // PEAK 144, other SIDES 0, WEIGHTS 1: twice the PEAK less WEIGHTS for each of COUNTS there
+        b.gives(287 * 999 - 500, "anti", 16, 16);
+        b.gives(287 * 500 - 999, "anti", 0, 16);
+        b.gives(-999 - 500, "anti", 16, 0);
+        b.gives(144 * 999 + 99, "at", 16, 16, 2);
+        b.gives(20 * (144 * 999 + 99), "frames", 20, 99, 16, 16);
+        b.gives(289, "keep");
+        b.gives(99, "light", 0);
+        b.gives(-99, "minus", 16, 16);
+        likeModel(text + "lost 0 15;lost 16 3;lost 5 5;lost 16 16;");
+    }
+
+    /** What the Model, which is the document word by word, makes of a text, is made of it here. */
+    private static void likeModel(String text) {
+        Bench b = Bench.of(text);
+        Model model = new Model();
+        for (int[] five : Bench.feeds(text)) {
+            model.call("feed", five);
+        }
+        model.call("load", text.length());
+        String[] calls = {"found -1 0", "filled 0", "filled 1", "worst 0", "worst 1", "worst 2",
+            "best 0", "best 1", "all 3", "all 5", "all 6", "frames 3 1 0 0", "frames 20 7 1 0"};
+        for (String call : calls) {
+            agree(b, model, call);
+        }
+        for (int k = 0; k < model.call("found", -1, 0); k++) {
+            for (int what = 0; what <= 2; what++) {
+                agree(b, model, "found " + k + " " + what);
+            }
+        }
+    }
+
+    private static void agree(Bench b, Model model, String call) {
+        String[] words = call.split(" ");
+        int[] args = new int[words.length - 1];
+        for (int i = 0; i < args.length; i++) {
+            args[i] = Integer.parseInt(words[i + 1]);
+        }
+        b.gives(model.call(words[0], args), words[0], args);
+    }
+
+    private static void foundWithLost() {
+        Bench.says("(of CELLS that are not LOST: each that such a SOURCE would throw there; below "
+            + "0, too)");
+        for (String used : new String[] {"s", "t", "u", "n"}) {
+            likeModel(SQUARE + "use " + used + ";");
+        }
+        String five = "plate s square 5;plate n neg s;source 1 2 70;source 3 4 200;source 0 3 50;";
+        String lost = "lost 0 0;lost 1 1;lost 2 3;lost 3 2;lost 4 4;lost 0 2;lost 2 0;lost 3 1;";
+        likeModel(five + lost);
+        likeModel(five + lost + "back 9;");
+        likeModel(five + lost + "back 9;stray 1 0 300;stray 2 2 99;use n;");
+        likeModel(ROW7 + "lost 4 0;lost 6 0;source 5 0 99;");
+        likeModel(ROW7 + "back 50;lost 0 0;lost 1 0;lost 2 0;source 5 0 99;");
+        likeModel("plate a row 11;plate b neg a;source 3 0 40;source 9 0 77;lost 1 0;lost 8 0;back 7;"
+            + "use b;");
+        likeModel("plate a row 13;source 3 0 40;source 9 0 77;lost 1 0;lost 8 0;back 7;");
+        likeModel("plate a set 13 0 1 3 9;source 3 0 40;source 9 0 77;lost 1 0;lost 8 0;back 7;");
     }
 
     private static void foundRefused() {
@@ -267,6 +355,7 @@ public final class EdgeFoundTest {
         b = Bench.of(ROW7);
         b.gives(10, "filled", 0);
         b.gives(3, "filled", 1);
+        Bench.says("FILLED, what 0: ERROR, 1: of LOST CELLS the greatest difference, without sign");
         // FOUND 3 of 4 at 0: FILLED 3 4 0, DECODED 7 1 -1
         b = Bench.of("plate a bits #110;source 0 0 4;lost 0 0;");
         b.gives(1 + 0 + 1, "filled", 0);
@@ -407,6 +496,12 @@ public final class EdgeFoundTest {
         b = Bench.of("plate a row 7;source 2 0 10;back 1;");
         b.gives(70, "anti", 2, 0);
         b.gives(-10, "anti", 3, 0);
+        Bench.of("plate a bits #100;source 0 0 1;").gives(3, "anti", 0, 0);
+        // as many SOURCES as there may be, and one of them dropped
+        b = Bench.of("plate a bits #10;" + "source 0 0 5;".repeat(8));
+        b.gives(80, "anti", 0, 0);
+        b.gives(7, "drop", 0, 7);
+        b.gives(70, "anti", 0, 0);
         // the WEIGHT is the PLATE's, not that of HOLES: row 5 at 0
         b = Bench.of("plate a row 5;source 0 0 10;");
         b.gives(30, "anti", 0, 0);
@@ -531,6 +626,11 @@ public final class EdgeFoundTest {
         b.gives(2, "add", 2, 1, 1, 4);
         b.gives(1, "match", 0);
         b.gives(1, "match", 1);
+        // back at the first again, and not at what was greatest ahead
+        b.gives(3, "add", 2, 0, 0, 9);
+        b.gives(0, "match", 0);
+        b.gives(0, "match", 1);
+        b.gives(45, "match", 2);
         // nothing in THE PICTURE: all are 0
         b = Bench.of("plate s square 3;");
         b.gives(9, "keep");
@@ -668,7 +768,13 @@ public final class EdgeFoundTest {
     }
 
     private static void shotsSeeds() {
-        Bench.says("SHOTS, n by a seed (1 to 65536)");
+        Bench.says("SHOTS, n (1 to 500) by a seed: x is the seed at first; n times x becomes 48,271 "
+            + "times x modulo 2,147,483,647;");
+        // 48271, and 48271 times that less so often 2147483647: 182605794; modulo 10 they are 1, 4
+        String two = "plate a bits #10;source 0 0 2;source 1 0 8;";
+        Bench.of(two).gives(0, "shots", 1, 1, 1);
+        Bench.of(two + "lost 0 0;").gives(1, "shots", 2, 1, 0);
+        Bench.says("SHOTS, n by a seed (1 to 65536), what 0: how many are counted");
         for (int seed : new int[] {1, 2, 65535, 65536}) {
             Bench b = Bench.of("plate a bits #10;source 0 0 999;source 1 0 998;lost 1 0;");
             for (int n : new int[] {1, 2, 100, 500}) {
@@ -692,6 +798,7 @@ public final class EdgeFoundTest {
     private static void shotsDecoded() {
         Bench.says("1, 2: x, y of the place with the greatest DECODED (of several the first, by y, "
             + "then x), 3: DECODED there");
+        Bench.says("DECODED by these counts.");
         // all shots on 1, 2: HOLES 1,0 2,0 1,1 2,2; DECODED as of one STRAY there
         Bench b = Bench.of("plate s square 3;stray 1 2 9;");
         b.gives(2, "shots", 5, 1, 1);
@@ -814,6 +921,26 @@ public final class EdgeFoundTest {
             if (error > most || (i < at && error == most) || (i == at && error != most)) {
                 Bench.fail("worst() is not so with the CELL " + i);
             }
+        }
+    }
+
+    /** With BACK and SIDES that are not 0, LIGHT is another one without the CELL. */
+    private static void worstWithBack() {
+        Bench.says("that, if it was LOST too, would make ERROR greatest");
+        for (int back : new int[] {0, 1, 7, 40, 99}) {
+            String text = "plate a row 7;source 2 0 10;source 6 0 31;back " + back + ";";
+            Bench all = Bench.of(text);
+            long most = all.call("worst", 2);
+            long at = all.call("worst", 0);
+            for (int x = 0; x < 7; x++) {
+                Bench b = Bench.of(text);
+                b.gives(1, "lose", x, 0);
+                long error = b.call("all", 3);
+                if (error > most || (x < at && error == most) || (x == at && error != most)) {
+                    Bench.fail("worst() is not so with the CELL " + x + " and BACK " + back);
+                }
+            }
+            likeModel(text);
         }
     }
 

@@ -120,7 +120,8 @@ public final class EdgePlateTest {
     }
 
     private static void turnedRound() {
-        Bench.says("What lies beyond comes round (x modulo WIDE, y modulo HIGH).");
+        Bench.says("A PLATE is WIDE by HIGH CELLS (x, y), each a HOLE or not, and has a WEIGHT in "
+            + "each. What lies beyond comes round (x modulo WIDE, y modulo HIGH).");
         String[] turned = {"1100", "0110", "0011", "1001"};
         for (int a = 0; a <= 99; a += a < 8 ? 1 : 13) {
             Bench b = Bench.of("plate a bits #1100;plate b turn a " + a + " 0;");
@@ -159,6 +160,11 @@ public final class EdgePlateTest {
         looks(b, 2, "01001", "++--+");
         looks(b, 4, "0", "-");
         looks(b, 5, "1", "+");
+        b = Bench.of("plate s square 17;plate n neg s;");
+        b.gives(145, "plate", 1, 2);
+        b.gives(-1, "plate", 1, 3);
+        b.gives(0, "cell", 1, 16, 16, 0);
+        b.gives(-1, "cell", 1, 16, 16, 1);
         b = Bench.of("plate s square 3;plate n neg s;plate t turn n 1 0;");
         looks(b, 1, "100/101/110", "---/+-+/++-");
         looks(b, 2, "010/110/011", "---/++-/-++");
@@ -418,8 +424,8 @@ public final class EdgePlateTest {
     }
 
     private static void windowSizes() {
-        Bench.says("x, y and so many to the right, down (w, h 1 to 99; coming round, CELLS counted "
-            + "as often as they are met)");
+        Bench.says("HOLES of a PLATE in a window: x, y and so many to the right, down (w, h 1 to "
+            + "99; coming round, CELLS counted as often as they are met)");
         // HOLES 011/010/001
         Bench b = Bench.of("plate a square 3;plate b bits #1;plate c bits #0;");
         b.gives(0, "window", 0, 0, 0, 1, 1);
@@ -505,6 +511,15 @@ public final class EdgePlateTest {
         b.gives(1, "alike", 0, 2);
         b.gives(0, "alike", 0, 3);
         b.gives(0, "alike", 3, 0);
+        // as WIDE, as many HOLES, not as HIGH
+        b = Bench.of("plate a bits #11;plate b bits #10;plate c both a b;");
+        b.gives(0, "alike", 0, 2);
+        b.gives(0, "alike", 2, 0);
+        // 289 CELLS
+        b = Bench.of("plate a square 17;plate b turn a 16 16;plate c neg b;");
+        b.gives(1, "alike", 0, 1);
+        b.gives(1, "alike", 1, 0);
+        b.gives(0, "alike", 0, 2);
         // one CELL
         b = Bench.of("plate a bits #1;plate b bits #0;plate c set 1 0;");
         b.gives(1, "alike", 0, 2);

@@ -336,6 +336,11 @@ public final class EdgeSceneTest {
         // no others
         things(b, 1, new int[][] {{1, 1}});
         things(b, 2, new int[][] {{2, 2, 2}});
+        // as many as there may be
+        b = Bench.of("source 98 99 1;".repeat(8));
+        b.gives(8, "slide", 2, 2);
+        things(b, 0, new int[][] {{0, 1, 1}, {0, 1, 1}, {0, 1, 1}, {0, 1, 1}, {0, 1, 1}, {0, 1, 1},
+            {0, 1, 1}, {0, 1, 1}});
         // modulo 100, not by the PLATE's WIDE
         b = Bench.of("plate a bits #1000000;source 98 0 5;");
         b.gives(5, "at", 0, 0, 0);

@@ -359,6 +359,11 @@ public final class EdgeSeenTest {
         b = Bench.of("plate a bits #1100;stray 0 0 5;stray 1 0 5;lost 0 0;lost 1 0;");
         b.gives(2, "all", 5);
         b.gives(10, "all", 6);
+        // the greatest at the first place alone, at the last alone
+        Bench.of("plate a bits #100;stray 1 0 5;stray 2 0 5;lost 1 0;lost 2 0;").gives(10, "all", 6);
+        Bench.of("plate a bits #100;stray 0 0 5;stray 1 0 5;lost 0 0;lost 1 0;").gives(10, "all", 6);
+        Bench.of("plate a bits #1;back 5;lost 0 0;").gives(5, "all", 6);
+        Bench.of("plate a bits #0;back 5;lost 0 0;").gives(1, "all", 5);
         // the greatest is one below 0
         b = Bench.of("plate a bits #100;stray 0 0 5;stray 1 0 5;lost 0 0;lost 1 0;");
         b.gives(1, "all", 5);

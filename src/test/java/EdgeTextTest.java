@@ -24,6 +24,8 @@ public final class EdgeTextTest {
         formSet();
         formTurn();
         formNeg();
+        formWord();
+        lineWord();
         formBoth();
         names();
         manyPlates();
@@ -363,7 +365,8 @@ public final class EdgeTextTest {
     }
 
     private static void formSquare() {
-        Bench.says("of square 3 to 17");
+        Bench.says("or square NUMBER. The NUMBER of row is a PRIME (an odd one, 3 to 47), of square "
+            + "3 to 17.");
         for (int n = 0; n <= 60; n++) {
             if (isOf(n, 17)) {
                 Bench b = good(1, "plate a square " + n + ";");
@@ -432,6 +435,34 @@ public final class EdgeTextTest {
         Bench.faults(2, 26, row + "plate b neg ;");
         Bench.faults(2, 26, row + "plate b neg 1;");
         Bench.faults(2, 28, row + "plate b neg a a;");
+    }
+
+    private static void formWord() {
+        Bench.says("FORM: row NUMBER, or bits BITS, or set NUMBER {NUMBER}");
+        String[] none = {"plate", "source", "lost", "stray", "back", "use", "a", "b", "rows", "ro",
+            "squar", "bit"};
+        for (String word : none) {
+            Bench.faults(2, 8, "plate a " + word + " 1 1 1;");
+            Bench.faults(2, 8, "plate a " + word + " 7;");
+            Bench.faults(2, 8, "plate a " + word);
+        }
+        Bench.faults(2, 8, "plate a 7;");
+        Bench.faults(2, 8, "plate a #1;");
+        Bench.faults(2, 8, "plate a ;");
+        Bench.faults(1, 8, "plate a squares 3;");
+    }
+
+    private static void lineWord() {
+        Bench.says("LINE: plate NAME FORM ;");
+        String[] none = {"row", "bits", "set", "turn", "neg", "both", "square", "a", "plates", "plat",
+            "sourc", "los", "losts", "strays", "backs", "used", "us"};
+        for (String word : none) {
+            Bench.faults(2, 14, "plate a row 3;" + word + " 1 1 1;");
+            Bench.faults(2, 0, word + " a;");
+            Bench.faults(2, 0, word + ";");
+        }
+        Bench.faults(2, 14, "plate a row 3;1;");
+        Bench.faults(2, 14, "plate a row 3;#1;");
     }
 
     private static void formBoth() {

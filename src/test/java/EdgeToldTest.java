@@ -13,6 +13,7 @@ public final class EdgeToldTest {
         printNow();
         printIsAllAsItIs();
         printLongest();
+        printFullText();
         printHasNoMemory();
         out();
         outNoneYet();
@@ -161,6 +162,22 @@ public final class EdgeToldTest {
         Bench.same(b.out(), all.toString(), "the longest OUT");
         b.gives(';', "out", all.length() - 1);
         b.refuses(5, "out", all.length());
+    }
+
+    /** PLATES that fill a text of 800 bytes, with a blank more in each LINE when it is printed. */
+    private static void printFullText() {
+        Bench.says("(TOKENS with one blank ahead, but for the first of each LINE and ;)");
+        StringBuilder text = new StringBuilder();
+        for (char name = 'a'; name <= 'f'; name++) {
+            text.append("plate abcde").append(name).append(" set0047");
+            int places = name == 'f' ? 21 : 22;
+            for (int x = 0; x < places; x++) {
+                text.append(x < 10 ? " 000" : " 00").append(x);
+            }
+            text.append(name == 'f' ? " 0031 0045 0046 030;" : ";");
+        }
+        Bench.same(text.length(), 800, "the length of the text");
+        told(text.toString().replace("set", "set ") + "back 0;use abcdea;", text.toString());
     }
 
     private static void printHasNoMemory() {
